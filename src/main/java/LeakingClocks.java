@@ -480,23 +480,13 @@ public final class LeakingClocks {
             truedDrops = other.truedDrops;
         }
 
-        /** Makes it a new clock; a clock's row may hold one that was undone. */
+        /** Makes it a new clock; all else is 0 in the row of one that has not come, as states are copied whole. */
         void begin(int newKind, int newWidth, int newPitch, int hour) {
             kind = newKind;
             width = newWidth;
             pitch = newPitch;
             led = number;
-            upper = 0;
-            lower = 0;
-            through = 0;
-            unused = 0;
-            widened = 0;
-            strokes = 0;
-            strokeDrops = 0;
-            poured = 0;
-            trued = 0;
             truedHour = hour;
-            truedDrops = 0;
         }
 
         /** Whether there is a figure of it, by the numbers of clockOf. */
@@ -999,7 +989,7 @@ public final class LeakingClocks {
         int place;
         int start;
         char letter;
-        // What is wrong with that order; the reason is 0 if nothing is.
+        // What is wrong with that order; the reason is 0 if nothing is, and the cause tells nothing then.
         int reason;
         int cause;
 
@@ -1014,9 +1004,7 @@ public final class LeakingClocks {
 
         void rewind() {
             place = 0;
-            start = 0;
             reason = 0;
-            cause = 0;
         }
 
         void tellFault(int newReason, int newCause) {

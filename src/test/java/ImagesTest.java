@@ -5,6 +5,7 @@ public final class ImagesTest {
         imageOfEverythingElse();
         undo();
         undoRestoresWhatIsNotSeen();
+        aClockAfterAnUndoneOne();
         everyChangeIsRecorded();
         errorsRecordNothing();
         Check.end();
@@ -126,6 +127,27 @@ public final class ImagesTest {
         disturb(x);
         disturb(y);
         Check.same("23: goes on as it would have", Check.view(x), Check.view(y));
+    }
+
+    private static void aClockAfterAnUndoneOne() {
+        LeakingClocks x = new LeakingClocks();
+        x.clock(2, 60, 9);
+        Check.type(x, "c2,40,7;p1,2;l0,1;p0,2;t30;x1;t9;");
+        x.play();
+        x.keep(0);
+        x.undo();
+        x.clock(1, 3, 3);
+        LeakingClocks y = new LeakingClocks();
+        y.clock(2, 60, 9);
+        y.clock(1, 3, 3);
+        Check.same("23: a new clock", Check.view(x), Check.view(y));
+        x.pour(1, 2);
+        y.pour(1, 2);
+        x.set(2, 50);
+        y.set(2, 50);
+        x.ticks(100);
+        y.ticks(100);
+        Check.same("23: a new clock goes on", Check.view(x), Check.view(y));
     }
 
     private static void everyChangeIsRecorded() {

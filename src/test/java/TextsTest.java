@@ -130,6 +130,13 @@ public final class TextsTest {
         Check.due("26: now it has", x.fault(0), 15);
         x.clearText();
         Check.due("26: no more", x.fault(0), Check.MISSING);
+        Check.type(x, "t9;");
+        x.clearText();
+        Check.type(x, "t9");
+        Check.due("26: not by the signs of a text that was cleared", x.fault(2), 2);
+        x.clearText();
+        Check.type(x, "t");
+        Check.due("26: nor by its digits", x.fault(2), 1);
     }
 
     private static void play() {
