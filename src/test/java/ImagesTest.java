@@ -84,10 +84,13 @@ public final class ImagesTest {
         Check.due("11: undone", x.count(1), 4);
         Check.due("11: images stay", x.back(0), 3);
         LeakingClocks y = busy();
-        x.keep(1);
-        disturb(x);
+        y.keep(0);
         disturb(y);
-        Check.same("11: goes on as it would have", Check.view(x), Check.view(y));
+        y.back(0);
+        disturb(y);
+        LeakingClocks z = busy();
+        disturb(z);
+        Check.same("11: goes on as it would have", Check.view(y), Check.view(z));
     }
 
     private static void undo() {
@@ -115,7 +118,7 @@ public final class ImagesTest {
     private static void undoRestoresWhatIsNotSeen() {
         LeakingClocks x = busy();
         LeakingClocks y = busy();
-        int[] view = Check.view(x);
+        int[] view = Check.view(busy());
         Check.type(x, "l0,2;w0,2;c2,7,7;p0,2;p3,2;x1;x2;t99;l1,3;");
         Check.due("23: played", x.play(), 9);
         x.ticks(50);

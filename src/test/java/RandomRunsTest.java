@@ -25,8 +25,9 @@ public final class RandomRunsTest {
         while (made < 512) {
             String call = CALLS[random.nextInt(CALLS.length)];
             if (call.equals("text")) {
-                for (char sign : order(random).toCharArray()) {
-                    ask(run, x, model, "type", sign, 0, 0);
+                String order = order(random);
+                for (int k = 0; k < order.length() && made < 512; k++) {
+                    ask(run, x, model, "type", order.charAt(k), 0, 0);
                     made++;
                 }
             } else {
