@@ -11,6 +11,7 @@ public final class EdgesOfTextsTest {
         typeAbove60();
         emptyAtFirst();
         clearTextOfAnyLength();
+        clearTextLeavesNothing();
         faultRanges();
         noFault();
         emptyHasNoFault();
@@ -96,6 +97,22 @@ public final class EdgesOfTextsTest {
             Check.due("no fault", x.fault(1), Check.MISSING);
             Check.due("nothing more", x.clearText(), 0);
             Check.due("no change", x.count(11), 0);
+        }
+    }
+
+    /** Promise 25: "Empties the text." - no order is ended by what stood there ahead of that. */
+    private static void clearTextLeavesNothing() {
+        for (String order : ORDERS) {
+            for (int length = 0; length < order.length(); length++) {
+                LeakingClocks x = twoClocks(order);
+                x.clearText();
+                String text = order.substring(0, length);
+                Check.type(x, text);
+                if (length > 0) {
+                    fault(x, text, 0, 1, length);
+                }
+                Check.due("orders of " + text, x.play(), length == 0 ? 0 : Check.IMPOSSIBLE);
+            }
         }
     }
 

@@ -183,8 +183,9 @@ public final class EdgesOfWaterTest {
 
     /** "what: 0 to 5" */
     private static void noSuchSetting() {
-        Edges.outside("set, what", Edges::busy, (x, what) -> x.set(what, 1), 0, 5);
-        Edges.refused("set, what 6 of no range", Edges::busy, x -> x.set(6, 0), Check.INVALID);
+        for (int value : new int[] {-1, 0, 1, 12, 20, 500, 5000}) {
+            Edges.outside("set to " + value + ", what", Edges::busy, (x, what) -> x.set(what, value), 0, 5);
+        }
         Edges.refused("set, both", Edges::busy, x -> x.set(-1, -1), Check.INVALID);
     }
 
