@@ -330,12 +330,13 @@ public final class LeakingClocks {
         return answer;
     }
 
+    /** Takes the row of the oldest state behind the others, where it is free for another one. */
     private void dropOldestState() {
-        State oldest = history[0];
         for (int k = 1; k < history.length; k++) {
+            State oldest = history[k - 1];
             history[k - 1] = history[k];
+            history[k] = oldest;
         }
-        history[history.length - 1] = oldest;
         states = history.length - 1;
     }
 

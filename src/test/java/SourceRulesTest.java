@@ -1,4 +1,8 @@
 import java.io.IOException;
+import java.lang.reflect.Constructor;
+import java.lang.reflect.Field;
+import java.lang.reflect.Method;
+import java.lang.reflect.Modifier;
 import java.nio.file.Files;
 import java.nio.file.Path;
 import java.util.ArrayList;
@@ -31,24 +35,63 @@ public final class SourceRulesTest {
         Check.end();
     }
 
-    private static void face() {
+    private static void face() throws IOException {
         Set<String> there = new HashSet<>();
-        for (java.lang.reflect.Method method : LeakingClocks.class.getDeclaredMethods()) {
-            boolean open = java.lang.reflect.Modifier.isPublic(method.getModifiers());
-            boolean closed = java.lang.reflect.Modifier.isPrivate(method.getModifiers());
+        for (Method method : LeakingClocks.class.getDeclaredMethods()) {
+            boolean open = Modifier.isPublic(method.getModifiers());
+            boolean closed = Modifier.isPrivate(method.getModifiers());
             Check.due("rule 1: " + method.getName() + " is public or private", open || closed ? 1 : 0, 1);
             if (open) {
-                there.add(method.getName());
+                there.add(Modifier.toString(method.getModifiers()) + " " + told(method.getName(), method));
             } else {
                 Check.due("rule 1: name " + method.getName(), List.of(FACE).contains(method.getName()) ? 1 : 0, 0);
             }
         }
-        Check.due("rule 1: the face", there.equals(Set.of(FACE)) ? 1 : 0, 1);
-        int constants = 0;
-        for (java.lang.reflect.Field field : LeakingClocks.class.getDeclaredFields()) {
-            constants += java.lang.reflect.Modifier.isPublic(field.getModifiers()) ? 1 : 0;
+        for (Field field : LeakingClocks.class.getDeclaredFields()) {
+            boolean open = Modifier.isPublic(field.getModifiers());
+            boolean closed = Modifier.isPrivate(field.getModifiers());
+            Check.due("rule 1: " + field.getName() + " is public or private", open || closed ? 1 : 0, 1);
+            if (open) {
+                there.add(Modifier.toString(field.getModifiers()) + " " + field.getType() + " " + field.getName());
+            }
         }
-        Check.due("rule 1: four constants", constants, 4);
+        for (Constructor<?> made : LeakingClocks.class.getDeclaredConstructors()) {
+            there.add(Modifier.toString(made.getModifiers()) + " LeakingClocks/" + made.getParameterCount());
+        }
+        there.add(Modifier.toString(LeakingClocks.class.getModifiers()) + " class LeakingClocks");
+        Set<String> due = faceOfTheDocument();
+        Check.due("rule 1: lines of the face", due.size(), FACE.length + 6);
+        for (String line : due) {
+            Check.due("the face has " + line, there.contains(line) ? 1 : 0, 1);
+        }
+        Check.due("rule 1: the face has no more", there.size(), due.size());
+    }
+
+    private static String told(String name, Method method) {
+        boolean numbers = method.getExceptionTypes().length == 0;
+        for (Class<?> type : method.getParameterTypes()) {
+            numbers &= type == int.class;
+        }
+        return method.getReturnType() + " " + name + "/" + (numbers ? method.getParameterCount() : -1);
+    }
+
+    /** The lines of the document's face: methods with how many numbers they take, constants without their values. */
+    private static Set<String> faceOfTheDocument() throws IOException {
+        Pattern method = Pattern.compile("(public .*?)\\((.*)\\);");
+        Pattern constant = Pattern.compile("(public .*?) = .*;");
+        Set<String> due = new HashSet<>();
+        for (String line : Files.readAllLines(Path.of("../shared/DOC.md"))) {
+            Matcher m = method.matcher(line.strip());
+            Matcher c = constant.matcher(line.strip());
+            if (m.matches()) {
+                due.add(m.group(1) + "/" + (m.group(2).isEmpty() ? 0 : m.group(2).split(",").length));
+            } else if (c.matches()) {
+                due.add(c.group(1));
+            } else if (line.startsWith("public final class")) {
+                due.add(line.replace(" {", ""));
+            }
+        }
+        return due;
     }
 
     private static String code(String line) {
